@@ -44,7 +44,6 @@ public final class GraphDeltas {
     private final Difference difference = new Difference();
     private final Merger merger = new Merger();
     private final Draft draft = new Draft();
-    private final Reader reader = new Reader(draft);
 
     public GraphDeltas() {
         Arrays.fill(kinds, ABSENT);
@@ -175,9 +174,6 @@ public final class GraphDeltas {
     }
 
     public int conflict(int k) {
-        if (k < 0 || k >= merger.conflictCount()) {
-            return BAD;
-        }
         return merger.conflictAt(k);
     }
 
@@ -222,7 +218,7 @@ public final class GraphDeltas {
     }
 
     public int decode() {
-        if (!reader.read(spare)) {
+        if (!new Reader(draft).read(spare)) {
             return MALFORMED;
         }
         Delta read = spare;
@@ -424,36 +420,36 @@ public final class GraphDeltas {
         }
 
         int code(int k) {
-            return cell(k, 0);
+            return cells[k * WIDTH];
         }
 
         int object(int k) {
-            return cell(k, 1);
+            return cells[k * WIDTH + 1];
         }
 
         /** The kind of a CREATE, the slot of a SET, the at of a SPLICE. */
         int place(int k) {
-            return cell(k, 2);
+            return cells[k * WIDTH + 2];
         }
 
         int tag(int k) {
-            return cell(k, 3);
+            return cells[k * WIDTH + 3];
         }
 
         int content(int k) {
-            return cell(k, 4);
+            return cells[k * WIDTH + 4];
         }
 
         int deletes(int k) {
-            return cell(k, 3);
+            return cells[k * WIDTH + 3];
         }
 
         int inserts(int k) {
-            return cell(k, 4);
+            return cells[k * WIDTH + 4];
         }
 
         int inserted(int k, int i) {
-            return cell(k, HEAD + i);
+            return cells[k * WIDTH + HEAD + i];
         }
 
         /** The place behind what a SPLICE deletes. */
@@ -911,10 +907,9 @@ public final class GraphDeltas {
             this.draft = draft;
         }
 
-        /** Whether the draft is the bytes of a delta; if so, into is that delta. */
+        /** Whether the draft is the bytes of a delta; if so, into is that delta. A reader reads once. */
         boolean read(Delta into) {
             into.clear();
-            at = 0;
             if (next() != Draft.MARK) {
                 return false;
             }

@@ -24,6 +24,7 @@ public final class PromisesTest {
         promise12Refused();
         promise13Merge();
         promise13MergedLists();
+        promise13NeighbouringLists();
         promise13TouchingPlaces();
         promise14Conflict();
         promise15Operation();
@@ -245,6 +246,13 @@ public final class PromisesTest {
         due("6 behind", x.remove(1, 3), false);
         due("6 insert again", x.insert(1, 3, 9), true);
         dueItems("6", x, 1, 2, 4, 5, 9);
+        // The last object there can be, with all the items it can have.
+        for (int o = 2; o < 16; o++) {
+            x.node(true);
+        }
+        makeList(x, 15, 1, 2, 3, 4, 5, 6);
+        due("6 remove", x.remove(15, 2), true);
+        dueItems("6", x, 15, 1, 2, 4, 5, 6);
     }
 
     private static void promise7Kind() {
@@ -494,6 +502,12 @@ public final class PromisesTest {
         due("12 as many as possible", x.diff(0, 1), 2);
         dueOperation("12 as many as possible", x, 0, 3, 1, 0, 1, 0);
         dueOperation("12 as many as possible", x, 1, 3, 1, 3, 0, 1, 1);
+        // What is left on both sides behind a pair counts for nothing.
+        x = withList(1, 2, 3);
+        listVersion(x, 2, 1);
+        due("12 lesser i", x.diff(0, 1), 2);
+        dueOperation("12 lesser i", x, 0, 3, 1, 0, 0, 1, 2);
+        dueOperation("12 lesser i", x, 1, 3, 1, 1, 2, 0);
         // 1 2 1 2 to 2 1: (0, 1) would be lost alone; (1, 0) (2, 1) is kept.
         x = withList(1, 2, 1, 2);
         listVersion(x, 2, 1);
@@ -585,6 +599,55 @@ public final class PromisesTest {
         due("13 too long", z.merge(0, 1, 2), 0);
         due("13 too long", z.operation(1, 2), 4);
         due("13 too long", z.apply(0), GraphDeltas.MISFIT);
+    }
+
+    /** The end of one LIST on the one side, the front of the next one on the other side. */
+    private static void promise13NeighbouringLists() {
+        GraphDeltas x = withList(1, 2, 3, 4, 5);
+        x.node(true);
+        x.link(0, 1, 2);
+        makeList(x, 2, 1, 2, 3, 4, 5);
+        due("13 z", x.snapshot(), 1);
+        x.insert(1, 5, 7);
+        x.insert(2, 0, 8);
+        due("13 x", x.snapshot(), 2);
+        x.restore(1);
+        x.insert(1, 0, 6);
+        x.insert(2, 5, 9);
+        due("13 y", x.snapshot(), 3);
+        for (int turn = 0; turn < 2; turn++) {
+            due("13 merge", turn == 0 ? x.merge(1, 2, 3) : x.merge(1, 3, 2), 0);
+            dueOperation("13", x, 0, 3, 1, 0, 0, 1, 6);
+            dueOperation("13", x, 1, 3, 1, 5, 0, 1, 7);
+            dueOperation("13", x, 2, 3, 2, 0, 0, 1, 8);
+            dueOperation("13", x, 3, 3, 2, 5, 0, 1, 9);
+            due("13 no more", x.operation(4, 0), GraphDeltas.NONE);
+        }
+        // One side of each LIST alone, at all pairs of places.
+        for (int p = 0; p <= 5; p++) {
+            for (int q = 0; q <= 5; q++) {
+                dueNeighbours(p, q);
+            }
+        }
+    }
+
+    private static void dueNeighbours(int p, int q) {
+        GraphDeltas x = withList(1, 2, 3, 4, 5);
+        x.node(true);
+        x.link(0, 1, 2);
+        makeList(x, 2, 1, 2, 3, 4, 5);
+        x.snapshot();
+        x.insert(1, p, 7);
+        x.snapshot();
+        x.restore(1);
+        x.insert(2, q, 8);
+        x.snapshot();
+        for (int turn = 0; turn < 2; turn++) {
+            due("13 merge", turn == 0 ? x.merge(1, 2, 3) : x.merge(1, 3, 2), 0);
+            dueOperation("13 neighbours", x, 0, 3, 1, p, 0, 1, 7);
+            dueOperation("13 neighbours", x, 1, 3, 2, q, 0, 1, 8);
+            due("13 no more", x.operation(2, 0), GraphDeltas.NONE);
+        }
     }
 
     private static int mergeOfLists(int[] z, int[] x, int[] y) {
@@ -980,6 +1043,19 @@ public final class PromisesTest {
         due("20 many", decodeOf(y, many), 80);
         dueOperation("20 many", y, 79, 3, 11, 2, 0, 1, -3);
         due("20 many", y.encode(), 483);
+        // The longest delta there is; it takes more calls than the document promises anything for.
+        int[] all = new int[45 + 16 * 7 * 6];
+        for (int o = 1; o < 16; o++) {
+            System.arraycopy(new int[] {1, o, 1}, 0, all, 3 * (o - 1), 3);
+        }
+        for (int k = 0; k < 16 * 7; k++) {
+            System.arraycopy(new int[] {3, k / 7, k % 7, 0, 1, 5}, 0, all, 45 + 6 * k, 6);
+        }
+        GraphDeltas z = new GraphDeltas();
+        due("20 all", decodeOf(z, all), 127);
+        dueOperation("20 all", z, 126, 3, 15, 6, 0, 1, -3);
+        due("20 all", z.encode(), all.length + 3);
+        due("20 all", z.decode(), 127);
     }
 
     private static void dueMalformed(GraphDeltas x, int... middle) {
