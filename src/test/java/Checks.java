@@ -20,6 +20,14 @@ final class Checks {
         due(call, got ? 1L : 0L, want ? 1L : 0L);
     }
 
+    void dueText(String call, String got, String want) {
+        asked++;
+        if (!got.equals(want)) {
+            wrong++;
+            System.out.println(call + " answered " + got + ", due is " + want);
+        }
+    }
+
     int wrong() {
         return wrong;
     }
