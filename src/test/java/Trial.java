@@ -28,6 +28,12 @@ final class Trial {
         part = name;
     }
 
+    /** A promise, with its number and name and its face, that the next sentences belong to. */
+    void promise(String name, String face) {
+        part("Promise " + name);
+        plain("## Promise " + name + " " + face + ":");
+    }
+
     /** Words of the document that name no boundary of their own. */
     void plain(String words) {
         if (!document.goesOnWith(words)) {
@@ -87,10 +93,28 @@ final class Trial {
                 state = State.after(run);
             }
             due(call, run.call(call), answer);
-            List<String> then = State.after(run);
-            for (int k = 0; k < Math.max(state.size(), then.size()); k++) {
-                due("after " + call, line(then, k), line(state, k));
-            }
+            dueLines("after " + call, State.after(run), state);
+        }
+    }
+
+    /** The call has this answer, and of all that can be seen only lines with these beginnings may change. */
+    void isOnly(Object answer, String call, String... beginnings) {
+        List<String> before = without(State.after(run), beginnings);
+        is(answer, call);
+        dueLines("after " + call, without(State.after(run), beginnings), before);
+    }
+
+    private static List<String> without(List<String> lines, String... beginnings) {
+        List<String> kept = new ArrayList<>(lines);
+        for (String beginning : beginnings) {
+            kept.removeIf(line -> line.startsWith(beginning));
+        }
+        return kept;
+    }
+
+    private void dueLines(String call, List<String> got, List<String> want) {
+        for (int k = 0; k < Math.max(got.size(), want.size()); k++) {
+            due(call, line(got, k), line(want, k));
         }
     }
 
