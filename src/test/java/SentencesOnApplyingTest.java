@@ -143,6 +143,15 @@ public final class SentencesOnApplyingTest {
         t.isMisfit(VERSION, 0, 3, 2, 0, 0, 5, 2, 2, 2, 2, 2, 3, 2, 1, 1, 0);
         t.isApplied(VERSION, 0, 1, 3, 2, 0, 2, 0, 3, 2, 3, 0, 5, 2, 2, 2, 2, 2);
         t.isMisfit(VERSION, 0, 3, 2, 0, 2, 0, 3, 2, 3, 0, 6, 2, 2, 2, 2, 2, 2);
+        // The last object, and the first one that can be a LIST.
+        String[] last = Starts.joined(Starts.joined(Starts.TREE, Starts.items(15, 1, 2, 3, 4, 5)), "snapshot");
+        t.isApplied(last, 0, 1, 3, 15, 5, 0, 1, 2);
+        t.isMisfit(last, 0, 3, 15, 5, 0, 2, 2, 2);
+        t.isMisfit(last, 0, 3, 15, 6, 0, 1, 2);
+        String[] first = Starts.rows(new int[] {1, 2, 3, 4, 5});
+        t.isApplied(first, 1, 2, 3, 1, 5, 0, 1, 2);
+        t.isMisfit(first, 1, 3, 1, 5, 0, 2, 2, 2);
+        t.isMisfit(first, 1, 3, 1, 6, 0, 1, 2);
         // Another LIST's items do not count, nor those of the live graph.
         String[] two = Starts.joined(VERSION, "link 0 2 4", "snapshot", "insert 2 0 13", "insert 2 0 14");
         t.isApplied(two, 1, 2, 3, 2, 0, 0, 3, 2, 2, 2, 3, 4, 0, 0, 6, 2, 2, 2, 2, 2, 2);
@@ -169,6 +178,20 @@ public final class SentencesOnApplyingTest {
         t.is(BAD, "kind 3", "kind 4");
         // What was put in the live graph behind the snapshot is not in the result.
         t.is(NOTHING, "value 0 2");
+        // The neighbours of what is changed at its last places stay as they are.
+        String[] neighbours = Starts.joined(Starts.items(2, 1, 2, 3, 4, 5, 6), "put 1 2 8", "put 3 0 9", "link 0 2 3",
+            "snapshot");
+        neighbours = Starts.joined(new String[] {"node false", "node true", "node false", "link 0 0 1", "link 0 1 2"}, neighbours);
+        t.isApplied(neighbours, 0, 1, 3, 2, 3, 1, 0, 3, 2, 6, 0, 1, 0);
+        t.is(true, "restore 1");
+        t.isList(2, 1, 2, 3, 5, 6, 0);
+        t.is(8L, "value 1 2");
+        t.is(9L, "value 3 0");
+        t.is(NOTHING, "value 3 1", "value 3 2", "value 1 0", "value 1 1");
+        t.isApplied(neighbours, 0, 1, 2, 1, 2, 1, 3);
+        t.is(true, "restore 1");
+        t.isList(2, 1, 2, 3, 4, 5, 6);
+        t.is(-2L, "value 1 2");
     }
 
     private static void places() {

@@ -155,6 +155,8 @@ public final class SentencesOnBytesTest {
         isNoVarint(255, 255, 255, 255, 31);
         isNoVarint(255, 255, 255, 255, 127);
         isNoVarint(128, 128, 128, 128, 128, 1);
+        isNoVarint(128, 128, 128, 128, 128);
+        isNoVarint(255, 255, 255, 255, 255);
         isNoVarint(254, 255, 255, 255, 143, 0);
         isNoVarint(128, 128, 128, 128, 128, 128, 128, 128, 128, 1);
         // A byte more than is needed.

@@ -211,6 +211,23 @@ public final class SentencesOnDeltaPromisesTest {
         t.is(2, "snapshot");
         t.is(6, "merge 0 1 2");
         t.isConflicts(0, 2, 112, 114, 121, 122);
+        // As many conflicts as there can be: both sides create all objects, and set each slot otherwise.
+        t.given("snapshot");
+        for (int o = 1; o < 16; o++) {
+            t.is(o, "node false");
+        }
+        for (int side = 0; side <= 1; side++) {
+            for (int k = 0; k < 48; k++) {
+                int next = k / 3 * 3 + (k + side) % 3 + 1;
+                t.is(true, k < 15 ? "link " + k / 3 + " " + k % 3 + " " + next : "put " + k / 3 + " " + k % 3 + " " + side);
+            }
+            t.is(1 + side, "snapshot");
+        }
+        t.is(48, "merge 0 1 2");
+        for (int k = 0; k < 48; k++) {
+            t.is(k / 3 * 8 + k % 3, "conflict " + k);
+        }
+        t.is(BAD, "conflict 48");
         // Three SPLICEs of one LIST that meet three others: once.
         t.given(Starts.rows(bytes(1, 2, 3, 4, 5), bytes(9, 2, 9, 4, 9), bytes(8, 2, 8, 4, 8), bytes(8, 2, 9, 4, 8)));
         t.is(1, "merge 1 2 3");
@@ -304,7 +321,18 @@ public final class SentencesOnDeltaPromisesTest {
         t.is(true, "restore 4");
         t.isList(1, 13, 14, 10, 12);
         t.is(1L, "value 0 2");
+        // The longer delta that there was before has no part in it.
+        t.given(Starts.RICH);
+        t.is(2, "diff 0 2");
+        t.is(3, "apply 0");
+        t.is(true, "same 2 3");
+        t.given(Starts.rows(bytes(), bytes(1, 2, 3, 4, 5, 6)));
+        t.is(1, "diff 1 2");
+        t.is(0, "diff 1 1");
+        t.is(3, "apply 2");
+        t.is(true, "same 2 3");
         // Of a result again, and the empty delta: the same once more.
+        t.given(Starts.joined(Starts.RICH, "apply 0", "apply 2"));
         t.is(0, "diff 0 0");
         t.isOnly(5, "apply 4", "version 5 ", "no version 5", "snapshot:");
         t.is(true, "same 4 5");
@@ -598,9 +626,12 @@ public final class SentencesOnDeltaPromisesTest {
         // A read delta and a refused one after another.
         t.fed(Trial.closed(1, 7, 1));
         t.is(1, "decode");
-        t.fed(Trial.closed(1, 7, 1, 1, 8, 2));
+        t.fed(Trial.closed(1, 9, 0, 1, 10, 0, 1, 8, 0));
         t.refused(MALFORMED, "decode");
         t.isDelta("1 7 1");
+        t.is(0, "diff 0 0");
+        t.refused(MALFORMED, "decode");
+        t.isDelta();
     }
 
     private static void draftStays() {

@@ -34,6 +34,8 @@ public final class SentencesOnDeltasTest {
         t.isMalformed(Starts.RICH, 4, 1, 0, 1, 0);
         t.isMalformed(Starts.RICH, 255, 1, 0);
         t.isMalformed(Starts.RICH, 129, 1, 0);
+        t.isMalformed(Starts.RICH, 4, 1);
+        t.isMalformed(Starts.RICH, 4);
         // The code 0 is the end: what stands behind it and the sum is too much.
         t.isMalformed(Starts.RICH, 0, 68);
         t.isMalformed(Starts.RICH, 0, 1, 0);
@@ -115,6 +117,8 @@ public final class SentencesOnDeltasTest {
             t.isMalformed(Starts.RICH, 2, o, 0, 0);
             t.isMalformed(Starts.RICH, 3, o, 0, 1, 0);
             t.isMalformed(Starts.RICH, 2, 0, 0, 2, o);
+            t.isMalformed(Starts.RICH, 1, o);
+            t.isMalformed(Starts.RICH, 3, o);
         }
     }
 

@@ -131,6 +131,9 @@ public final class SentencesOnDifferencesTest {
         isDifference(row(1, 2), row(2, 1), "3 1 0 0 1 2", "3 1 1 1 0");
         isDifference(row(5), row(5, 5, 5), "3 1 1 0 2 5 5");
         isDifference(row(5, 5, 5), row(5), "3 1 1 2 0");
+        // What is left of both rows behind a pair counts for nothing.
+        isDifference(row(1, 2, 3), row(2, 1), "3 1 0 0 1 2", "3 1 1 2 0");
+        isDifference(row(1, 2, 3), row(2, 5, 1), "3 1 0 0 2 2 5", "3 1 1 2 0");
         // The same for the second pair, behind an equal first one.
         isDifference(row(9, 1, 2), row(9, 2, 1), "3 1 1 0 1 2", "3 1 2 1 0");
         isDifference(row(9, 5), row(9, 5, 5), "3 1 2 0 1 5");

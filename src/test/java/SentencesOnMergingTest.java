@@ -166,6 +166,19 @@ public final class SentencesOnMergingTest {
         t.is(3, "apply 0");
         t.is(true, "restore 3");
         t.isList(1, 4, 10, 11, 13, 5);
+        // The last CREATE stands before the first SET, the last SPLICE of a LIST before the first one of the next.
+        t.given(Starts.joined(Starts.TREE, "link 4 2 -1", "snapshot", "link 4 2 15", "snapshot", "restore 0", "put 0 0 5",
+            "snapshot"));
+        for (String call : calls("merge 0 1 2", "merge 0 2 1")) {
+            t.is(0, call);
+            t.isDelta("1 15 1", "2 0 0 1 5", "2 4 2 2 15");
+        }
+        givenBranches(Starts.joined(Starts.joined(Starts.TREE, Starts.items(5, 1, 2, 3, 4, 5, 6)), Starts.items(6, 1)),
+            calls("remove 5 0", "insert 5 5 7"), calls("insert 6 0 8", "link 4 2 0"));
+        for (String call : calls("merge 0 1 2", "merge 0 2 1")) {
+            t.is(0, call);
+            t.isDelta("2 4 2 2 0", "3 5 0 1 0", "3 5 6 0 1 7", "3 6 0 0 1 8");
+        }
         // The merged delta may be one that does not fit z: seven items in the end, or six.
         t.given(Starts.rows(row(1, 2, 3, 4), row(8, 1, 2, 3, 4), row(1, 2, 3, 4, 9), row(1, 2, 3, 4, 9, 9)));
         t.is(0, "merge 1 2 3");

@@ -3,6 +3,11 @@ import java.util.List;
 
 /** All that the calls of the face can tell of an object after a run, line by line. */
 final class State {
+    /** More than any delta, operation or other row has: so a look at a faulty object ends, too. */
+    private static final int OPERATIONS = 130;
+    private static final int CELLS = 15;
+    private static final int ENTRIES = 1300;
+
     private final Run run;
     private final List<String> lines = new ArrayList<>();
     /** An object that has only been looked at since the run. */
@@ -65,10 +70,10 @@ final class State {
     }
 
     private void tellRows() {
-        for (int k = 0; !none(look("operation " + k + " 0", null)); k++) {
+        for (int k = 0; k < OPERATIONS && !none(look("operation " + k + " 0", null)); k++) {
             StringBuilder line = new StringBuilder("operation " + k + ":");
             Object cell = look("operation " + k + " 0", null);
-            for (int w = 1; !none(cell); w++) {
+            for (int w = 1; w < CELLS && !none(cell); w++) {
                 line.append(' ').append(cell);
                 cell = look("operation " + k + " " + w, null);
             }
@@ -85,7 +90,7 @@ final class State {
     private void tellRow(String call) {
         StringBuilder line = new StringBuilder(call + ":");
         Object cell = look(call + " 0", null);
-        for (int k = 1; (Integer) cell != GraphDeltas.BAD; k++) {
+        for (int k = 1; k < ENTRIES && (Integer) cell != GraphDeltas.BAD; k++) {
             line.append(' ').append(cell);
             cell = look(call + " " + k, null);
         }
