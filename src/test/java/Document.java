@@ -36,6 +36,11 @@ final class Document {
         return true;
     }
 
+    /** Whether all has been gone through. */
+    boolean isDone() {
+        return rest == null || rest.isEmpty();
+    }
+
     String next() {
         return rest.substring(0, Math.min(80, rest.length()));
     }

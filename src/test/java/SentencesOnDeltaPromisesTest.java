@@ -38,7 +38,7 @@ public final class SentencesOnDeltaPromisesTest {
         draftStays();
         byteAt();
         notPromised();
-        t.end("");
+        t.endOfDocument();
     }
 
     private static int[] bytes(int... bytes) {

@@ -12,7 +12,8 @@ public final class SentencesOnObjectsTest {
     private static Trial t;
 
     public static void main(String[] args) throws Exception {
-        t = new Trial("SentencesOnObjectsTest", "An object is used");
+        t = new Trial("SentencesOnObjectsTest", "# GraphDeltas");
+        whatItIs();
         numberOfCalls();
         objects();
         recordsAndLists();
@@ -22,6 +23,31 @@ public final class SentencesOnObjectsTest {
         reached();
         versions();
         t.end("A DELTA is a row");
+    }
+
+    private static void whatItIs() {
+        t.part("What it is");
+        t.plain("# GraphDeltas ## What it is");
+        t.sentence("Keeps versions of a graph of objects, finds the least difference of two of them, writes differences"
+            + " as bytes and reads them, applies them to versions, and merges two versions that come from a third one.");
+        t.given("node true", "link 0 0 1", "insert 1 0 1", "insert 1 1 2", "snapshot",
+            "insert 1 0 9", "snapshot", "restore 0", "put 0 1 4", "remove 1 1", "snapshot");
+        t.is(1, "diff 0 1");
+        t.isDelta("3 1 0 0 1 9");
+        t.is(9, "encode");
+        t.isDraft(Trial.closed(3, 1, 0, 0, 1, 18));
+        t.is(2, "diff 0 2");
+        t.isDelta("2 0 1 1 4", "3 1 1 1 0");
+        t.is(1, "decode");
+        t.isDelta("3 1 0 0 1 9");
+        t.is(3, "apply 0");
+        t.is(true, "same 1 3");
+        t.is(0, "merge 0 1 2");
+        t.isDelta("2 0 1 1 4", "3 1 0 0 1 9", "3 1 1 1 0");
+        t.is(4, "apply 0");
+        t.is(true, "restore 4");
+        t.is(4L, "value 0 1");
+        t.isList(1, 9, 1);
     }
 
     private static void numberOfCalls() {

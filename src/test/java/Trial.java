@@ -54,6 +54,14 @@ final class Trial {
         checks.end();
     }
 
+    /** The document has no more words. */
+    void endOfDocument() {
+        if (!document.isDone()) {
+            checks.dueText(part + ": the document goes on", document.next(), "");
+        }
+        checks.end();
+    }
+
     // Calls.
 
     /** Begins a new object with these calls, which are only there to lead somewhere. */
